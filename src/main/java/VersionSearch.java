@@ -1513,20 +1513,24 @@ public final class VersionSearch {
 
         int twins(Archive archive) {
             int twins = 0;
-            for (int slot = 0; slot < Archive.SLOTS; slot++) {
-                for (int other = 0; other < slot; other++) {
-                    twins += areTwins(archive, slot, other) ? 1 : 0;
+            for (int document = 0; document < archive.documents; document++) {
+                for (int version = 0; version < archive.versionsOf(document); version++) {
+                    twins += twinsAhead(archive, document, version);
                 }
             }
             return twins;
         }
 
-        private boolean areTwins(Archive archive, int slot, int other) {
-            int a = slot / Archive.VERSIONS;
-            int v = slot % Archive.VERSIONS;
-            int b = other / Archive.VERSIONS;
-            int w = other % Archive.VERSIONS;
-            return archive.hasVersion(a, v) && archive.hasVersion(b, w) && sameWords(archive, a, v, b, w);
+        /** Of the versions of lesser documents, and the earlier ones of its own, so that each couple is met once. */
+        private int twinsAhead(Archive archive, int document, int version) {
+            int twins = 0;
+            for (int other = 0; other <= document; other++) {
+                int versions = other == document ? version : archive.versionsOf(other);
+                for (int earlier = 0; earlier < versions; earlier++) {
+                    twins += sameWords(archive, document, version, other, earlier) ? 1 : 0;
+                }
+            }
+            return twins;
         }
 
         private boolean sameWords(Archive archive, int a, int v, int b, int w) {
@@ -1733,8 +1737,6 @@ public final class VersionSearch {
 
     /** In which versions questions hold, and what follows from it. */
     private static final class Search {
-        static final int DATES = 100;
-
         /** Of each question and document, the versions in which it holds, as bits. */
         private final int[] heldBits = new int[Questions.MOST * Archive.DOCUMENTS];
 
@@ -1854,29 +1856,28 @@ public final class VersionSearch {
 
         int changes(Archive archive, int k) {
             int changes = 0;
-            int before = 0;
-            for (int date = 0; date < DATES; date++) {
-                int documents = asOf(archive, k, date);
-                changes += documents != before ? 1 : 0;
-                before = documents;
+            for (int date = 0; date < archive.versionsOfAll(); date++) {
+                changes += isChange(archive, k, date) ? 1 : 0;
             }
             return changes;
         }
 
         int changeAt(Archive archive, int k, int i) {
             int changes = 0;
-            int before = 0;
-            for (int date = 0; date < DATES; date++) {
-                int documents = asOf(archive, k, date);
-                if (documents != before) {
+            for (int date = 0; date < archive.versionsOfAll(); date++) {
+                if (isChange(archive, k, date)) {
                     if (changes == i) {
                         return date;
                     }
                     changes++;
                 }
-                before = documents;
             }
             return NONE;
+        }
+
+        /** Each line makes one version, so no date is as great as the number of versions, and nothing changes there. */
+        private boolean isChange(Archive archive, int k, int date) {
+            return asOf(archive, k, date) != asOf(archive, k, date - 1);
         }
 
         int ranked(Archive archive, int k, int rank) {

@@ -14,6 +14,7 @@ public final class ModelTest {
     private VersionSearch x = new VersionSearch();
     private Model model = new Model();
     private int calls = 0;
+    private boolean strict = false;
 
     private ModelTest(int run) {
         this.run = run;
@@ -24,7 +25,7 @@ public final class ModelTest {
         int runs = args.length > 0 ? Integer.parseInt(args[0]) : RUNS;
         for (int run = 0; run < runs && Due.wrong() < 20; run++) {
             ModelTest test = new ModelTest(run);
-            if (run % 20 == 0) {
+            if (run % 10 == 0) {
                 test.askAll();
             } else {
                 test.askAtRandom();
@@ -115,8 +116,13 @@ public final class ModelTest {
 
     // ---- texts at random
 
+    /** Once in so many times, what will mostly be a fault; never in a strict text. */
+    private boolean odd(int once) {
+        return !strict && random.nextInt(once) == 0;
+    }
+
     private String word() {
-        if (random.nextInt(60) == 0) {
+        if (odd(60)) {
             return random.nextBoolean() ? "abcde" : "phrase";
         }
         return WORDS[random.nextInt(random.nextInt(4) == 0 ? WORDS.length : 5)];
@@ -132,23 +138,24 @@ public final class ModelTest {
 
     /** A number that is mostly below a bound. */
     private int below(int bound) {
-        return random.nextInt(60) == 0 ? random.nextInt(100) : random.nextInt(Math.max(1, bound));
+        return odd(60) ? random.nextInt(100) : random.nextInt(Math.max(1, bound));
     }
 
     private String archiveText() {
         StringBuilder text = new StringBuilder();
         List<List<Integer>> lengths = new ArrayList<>();
-        int lines = random.nextInt(30) + 1;
+        int lines = random.nextInt(40) + 1;
+        strict = random.nextInt(3) > 0;
         for (int i = 0; i < lines; i++) {
             String line;
-            if (lengths.isEmpty() || lengths.size() < 4 && random.nextInt(6) == 0 || random.nextInt(120) == 0) {
-                int n = random.nextInt(10) == 0 ? random.nextInt(23) : random.nextInt(7);
+            if (lengths.isEmpty() || lengths.size() < 4 && random.nextInt(6) == 0 || odd(120)) {
+                int n = random.nextInt(10) == 0 ? random.nextInt(strict ? 21 : 23) : random.nextInt(7);
                 line = "doc" + words(n);
                 lengths.add(new ArrayList<>(List.of(n)));
             } else {
                 line = change(lengths);
             }
-            if (text.length() + line.length() + 2 > 600) {
+            if (line.isEmpty() || text.length() + line.length() + 2 > 600) {
                 break;
             }
             text.append(line).append(random.nextInt(5) == 0 ? "; " : ";");
@@ -158,12 +165,15 @@ public final class ModelTest {
 
     private String change(List<List<Integer>> lengths) {
         int d = random.nextInt(lengths.size());
-        if (lengths.get(d).size() == 10 && random.nextInt(10) > 0) {
-            d = random.nextInt(lengths.size());
+        for (int i = 0; i < lengths.size() && lengths.get(d).size() == 10 && !odd(10); i++) {
+            d = i;
+        }
+        if (strict && lengths.get(d).size() == 10) {
+            return "";
         }
         List<Integer> versions = lengths.get(d);
         int length = versions.get(versions.size() - 1);
-        int told = random.nextInt(90) == 0 ? random.nextInt(6) : d;
+        int told = odd(90) ? random.nextInt(6) : d;
         int n;
         int deed = random.nextInt(4);
         if (deed == 1 && length > 0) {
@@ -171,7 +181,7 @@ public final class ModelTest {
             n = 1 + random.nextInt(length - from);
             n = random.nextInt(3) == 0 ? n : 1;
             versions.add(length - n);
-            return "cut " + told + " " + (random.nextInt(60) == 0 ? below(22) : from) + " " + (random.nextInt(60) == 0 ? below(22) : n);
+            return "cut " + told + " " + (odd(60) ? below(22) : from) + " " + (odd(60) ? below(22) : n);
         }
         if (deed == 2 && length > 0) {
             versions.add(length);
@@ -180,10 +190,10 @@ public final class ModelTest {
         if (deed == 3) {
             int v = random.nextInt(versions.size());
             versions.add(versions.get(v));
-            return "back " + told + " " + (random.nextInt(60) == 0 ? below(12) : v);
+            return "back " + told + " " + (odd(60) ? below(12) : v);
         }
         n = random.nextInt(12) == 0 ? random.nextInt(22) : random.nextInt(4);
-        if (length + n > 20 && random.nextInt(8) > 0) {
+        if (length + n > 20 && !odd(8)) {
             n = Math.max(0, 20 - length);
         }
         versions.add(Math.min(20, length + n));
@@ -192,10 +202,11 @@ public final class ModelTest {
 
     private String questionsText() {
         StringBuilder text = new StringBuilder();
-        int lines = random.nextInt(9) + (random.nextInt(20) == 0 ? 1 : 0);
+        strict = random.nextInt(3) > 0;
+        int lines = random.nextInt(9) + (odd(20) ? 1 : 0);
         for (int k = 0; k < lines; k++) {
             switch (random.nextInt(k == 0 ? 3 : 8)) {
-                case 0 -> text.append("phrase").append(words(random.nextInt(40) == 0 ? random.nextInt(7) : 1 + random.nextInt(3)));
+                case 0 -> text.append("phrase").append(words(odd(40) ? random.nextInt(7) : 1 + random.nextInt(3)));
                 case 1 -> text.append("near").append(words(2)).append(' ').append(1 + below(9));
                 case 2 -> text.append("many").append(words(1)).append(' ').append(1 + below(3));
                 case 3 -> text.append("not ").append(below(k));
@@ -211,7 +222,8 @@ public final class ModelTest {
 
     private String huntText() {
         StringBuilder text = new StringBuilder();
-        int lines = random.nextInt(5) + (random.nextInt(10) == 0 ? 5 : 0);
+        strict = random.nextInt(3) > 0;
+        int lines = random.nextInt(5) + (odd(10) ? 5 : 0);
         for (int k = 0; k < lines; k++) {
             text.append(random.nextBoolean() ? "in " : "out ").append(below(3)).append(' ').append(below(5)).append(';');
         }
@@ -281,7 +293,9 @@ public final class ModelTest {
     /** The answers over all that two of each sort tell, edges of each argument too. */
     private void askAll() {
         for (int i = 0; i < 2; i++) {
-            told(0, NONE, archiveText());
+            for (int tries = 0; tries < 20 && x.count(0) == i; tries++) {
+                told(0, NONE, archiveText());
+            }
             told(1, NONE, questionsText());
             told(2, NONE, huntText());
         }

@@ -377,6 +377,7 @@ public final class PromisesTest {
         Due.is("LOST of version 0", x.version(0, 0, 0, 3), 0);
         Due.is("LOST by cut", x.version(0, 0, 2, 3), 2);
         Due.is("LOST by back", x.version(0, 0, 3, 3), 1);
+        Due.is("LOST by put", x.version(0, 0, 1, 3), 0);
         Due.is("TURNED of version 0", x.version(0, 1, 0, 4), 0);
         Due.is("TURNED by move", x.version(0, 1, 1, 4), 1);
         Due.is("OLDEST", x.version(0, 0, 1, 5), 0);
@@ -397,6 +398,10 @@ public final class PromisesTest {
         Due.is("four letters", x.version(0, 0, 0, 10), ((1 * 27 + 2) * 27 + 3) * 27 + 4);
         Due.is("two letters", x.version(0, 0, 0, 11), 26 * 27 + 26);
         Due.is("OLDEST of none", x.version(0, 1, 0, 5), NONE);
+        Due.text(x, 0, 0, "doc;doc a b c;cut 1 0 2;doc a b;cut 2 1 1;");
+        Due.is("LOST of version 1", x.version(0, 1, 1, 3), 2);
+        Due.is("LOST of a later document's version 0", x.version(0, 1, 0, 3), 0);
+        Due.is("LOST of document 2", x.version(0, 2, 1, 3), 1);
     }
 
     private static void turnedAndOldest() {
@@ -489,6 +494,8 @@ public final class PromisesTest {
         Due.text(x, 0, 0, "doc a b c b d a b;doc b d c a b a;doc;");
         Due.is("COMMON of abcbdab, bdcaba", x.common(0, 0, 0, 1, 0), 4);
         Due.is("COMMON with none", x.common(0, 0, 0, 2, 0), 0);
+        Due.text(x, 0, 0, "doc a b c d e f g h i j k l m n o p q r s t;");
+        Due.is("COMMON of twenty", x.common(0, 0, 0, 0, 0), 20);
     }
 
     private static void question() {
