@@ -187,6 +187,12 @@ public final class PromisesTest {
         faultIs(0, "doc abcde;", 2, 4);
         faultIs(0, "doc a;put 0 0 abcde;", 2, 14);
         faultIs(0, "doc;put 4 0;", 2, 8);
+        faultIs(0, "doc;cut 4 0 1;", 2, 8);
+        faultIs(0, "doc;move 4 0 0;", 2, 9);
+        faultIs(0, "doc;cut 3 19 20;", 4, 4);
+        faultIs(0, "doc;move 3 19 19;", 4, 4);
+        faultIs(0, "doc;put 3 20;", 4, 4);
+        faultIs(0, "doc;back 3 9;", 4, 4);
         faultIs(0, "doc;put 0 21;", 2, 10);
         faultIs(0, "doc a;cut 0 20 1;", 2, 12);
         faultIs(0, "doc a;cut 0 0 0;", 2, 14);
@@ -258,6 +264,8 @@ public final class PromisesTest {
     private static void faultsOfHunts() {
         faultIs(2, "in 3 9;out 3 9;", 0, NONE);
         faultIs(2, "in 4 0;", 2, 3);
+        faultIs(2, "out 4 0;", 2, 4);
+        faultIs(2, "in 0 10;", 2, 5);
         faultIs(2, "out 0 10;", 2, 6);
         String eight = "in0 0;in0 0;in0 0;in0 0;in0 0;in0 0;in0 0;in0 0;";
         faultIs(2, eight, 0, NONE);
@@ -292,6 +300,14 @@ public final class PromisesTest {
         Due.text(x, 0, NONE, "doc;");
         Due.is("fault behind a text without", x.fault(0), 0);
         Due.is("place behind a text without", x.fault(1), NONE);
+        Due.tape(x, "doc abc;");
+        x.end(6);
+        Due.is("bytes behind the end do not count", x.text(0, NONE), NONE);
+        Due.is("the end's place", x.fault(1), 6);
+        Due.tape(x, "in 0 12;");
+        x.end(6);
+        Due.is("digits behind the end do not count", x.text(2, NONE), NONE);
+        Due.is("the end's place behind a digit", x.fault(1), 6);
         x.feed(1, 2, 3, 4, 5);
         x.text(1, NONE);
         Due.is("fault of bytes", x.fault(0), 1);
