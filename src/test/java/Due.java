@@ -2,27 +2,30 @@ import java.nio.charset.StandardCharsets;
 
 /** What the tests have in common: to feed a text, and to tell an answer that is not due. */
 final class Due {
+    private static final int MOST_TOLD = 50;
     private static int wrong = 0;
+    private static String sentence = "";
 
     private Due() {
+    }
+
+    /** The words of the document that the checks from here on are about. */
+    static void sentence(String words) {
+        sentence = words;
     }
 
     static void is(String call, long got, long want) {
         if (got != want) {
             wrong++;
-            System.out.println(call + " answered " + got + ", due is " + want);
+            String about = sentence.isEmpty() ? "" : "'" + sentence + "': ";
+            if (wrong <= MOST_TOLD) {
+                System.out.println(about + call + " answered " + got + ", due is " + want);
+            }
         }
     }
 
     static void is(String call, boolean got, boolean want) {
         is(call, got ? 1 : 0, want ? 1 : 0);
-    }
-
-    static void isRow(String call, int[] got, int... want) {
-        is(call + ": length", got.length, want.length);
-        for (int i = 0; i < Math.min(got.length, want.length); i++) {
-            is(call + "[" + i + "]", got[i], want[i]);
-        }
     }
 
     static void finish(String name) {
@@ -56,6 +59,29 @@ final class Due {
     static int text(VersionSearch x, int sort, int at, String text) {
         tape(x, text);
         return x.text(sort, at);
+    }
+
+    /** A new object with one text of each sort. */
+    static VersionSearch with(String archive, String questions, String hunt) {
+        VersionSearch x = new VersionSearch();
+        is("archive text " + archive, text(x, 0, VersionSearch.NONE, archive), 0);
+        is("questions text " + questions, text(x, 1, VersionSearch.NONE, questions), 0);
+        is("hunt text " + hunt, text(x, 2, VersionSearch.NONE, hunt), 0);
+        return x;
+    }
+
+    /** The fault of a text on a new object, and that nothing is told by it, if there is one. */
+    static void faultIs(int sort, String text, int fault, int place) {
+        VersionSearch x = new VersionSearch();
+        is("text of " + text, text(x, sort, VersionSearch.NONE, text), fault == 0 ? 0 : VersionSearch.NONE);
+        is("fault of " + text, x.fault(0), fault);
+        is("place of fault of " + text, x.fault(1), place);
+        is("count after " + text, x.count(sort), fault == 0 ? 1 : 0);
+        is("tape after " + text, x.end(1), VersionSearch.NONE);
+    }
+
+    static void noFault(int sort, String text) {
+        faultIs(sort, text, 0, VersionSearch.NONE);
     }
 
     /** A word as the number that the class tells. */

@@ -14,6 +14,8 @@ public final class ModelTest {
     private VersionSearch x = new VersionSearch();
     private Model model = new Model();
     private int calls = 0;
+    private int callsOfObject = 0;
+    private final String[][] kept = new String[3][2];
     private boolean strict = false;
 
     private ModelTest(int run) {
@@ -36,6 +38,7 @@ public final class ModelTest {
 
     private void due(String call, long got, long want) {
         calls++;
+        callsOfObject++;
         Due.is("run " + run + " call " + calls + ": " + call, got, want);
     }
 
@@ -109,9 +112,30 @@ public final class ModelTest {
         if (random.nextInt(4) > 0) {
             due("end(" + bytes.length + ")", x.end(bytes.length), model.end(bytes.length));
         }
-        due("text(" + sort + ", " + at + ") " + text, x.text(sort, at), model.text(sort, at));
+        int number = x.text(sort, at);
+        due("text(" + sort + ", " + at + ") " + text, number, model.text(sort, at));
+        if (number >= 0 && number < 2) {
+            kept[sort][number] = text;
+        }
         due("fault(0) " + text, x.fault(0), model.fault(0));
         due("fault(1) " + text, x.fault(1), model.fault(1));
+    }
+
+    /** Goes on with a new object that is told the same, where so many calls more would be too many for this one. */
+    private void haveRoom(int more) {
+        if (callsOfObject + more <= CALLS) {
+            return;
+        }
+        x = new VersionSearch();
+        model = new Model();
+        callsOfObject = 0;
+        for (int sort = 0; sort < kept.length; sort++) {
+            for (String text : kept[sort]) {
+                if (text != null) {
+                    told(sort, NONE, text);
+                }
+            }
+        }
     }
 
     // ---- texts at random
@@ -293,13 +317,16 @@ public final class ModelTest {
     /** The answers over all that two of each sort tell, edges of each argument too. */
     private void askAll() {
         for (int i = 0; i < 2; i++) {
-            for (int tries = 0; tries < 20 && x.count(0) == i; tries++) {
+            for (int tries = 0; tries < 20 && model.count(0) == i; tries++) {
+                haveRoom(200);
                 told(0, NONE, archiveText());
             }
+            haveRoom(200);
             told(1, NONE, questionsText());
             told(2, NONE, huntText());
         }
         for (int a = -1; a < 3; a++) {
+            haveRoom(160);
             for (int what = -1; what < 70; what++) {
                 archive(a, what);
             }
@@ -309,6 +336,7 @@ public final class ModelTest {
             }
             for (int d = -1; d < 5; d++) {
                 for (int v = -1; v < 11; v++) {
+                    haveRoom(80);
                     for (int what = -1; what < 32; what++) {
                         version(a, d, v, what);
                     }
@@ -320,6 +348,7 @@ public final class ModelTest {
                         common(a, d, v, random.nextInt(5), w);
                     }
                 }
+                haveRoom(43);
                 for (int n = -1; n < 42; n++) {
                     drawn(a, random.nextInt(), n, d, random.nextInt(32) - 1);
                 }
@@ -331,12 +360,14 @@ public final class ModelTest {
     }
 
     private void askAllOfQuestions(int a, int q) {
+        haveRoom(93);
         for (int what = -1; what < 30; what++) {
             best(a, q, what);
             fits(a, q, what);
             fact(q, what - 5, random.nextInt(5) - 1);
         }
         for (int k = -1; k < 9; k++) {
+            haveRoom(50);
             for (int what = -1; what < 16; what++) {
                 question(q, k, what);
             }
@@ -347,6 +378,7 @@ public final class ModelTest {
                 implies(a, q, k, l);
             }
             for (int d = -1; d < 5; d++) {
+                haveRoom(36);
                 for (int v = -1; v < 11; v++) {
                     holds(a, q, k, d, v);
                     times(a, q, k, d, v);

@@ -51,23 +51,6 @@ public final class PromisesTest {
         Due.finish("PromisesTest");
     }
 
-    private static VersionSearch with(String archive, String questions, String hunt) {
-        VersionSearch x = new VersionSearch();
-        Due.is("archive text", Due.text(x, 0, NONE, archive), 0);
-        Due.is("questions text", Due.text(x, 1, NONE, questions), 0);
-        Due.is("hunt text", Due.text(x, 2, NONE, hunt), 0);
-        return x;
-    }
-
-    private static void faultIs(int sort, String text, int fault, int place) {
-        VersionSearch x = new VersionSearch();
-        Due.is("text of " + text, Due.text(x, sort, NONE, text), fault == 0 ? 0 : NONE);
-        Due.is("fault of " + text, x.fault(0), fault);
-        Due.is("place of fault of " + text, x.fault(1), place);
-        Due.is("count after " + text, x.count(sort), fault == 0 ? 1 : 0);
-        Due.is("tape after " + text, x.end(1), NONE);
-    }
-
     private static void newObject() {
         VersionSearch x = new VersionSearch();
         Due.is("NONE", NONE, -1);
@@ -142,155 +125,155 @@ public final class PromisesTest {
     }
 
     private static void textTokens() {
-        faultIs(0, "doc a b;put 0 1 c;", 0, NONE);
-        faultIs(0, "\n doc\na ;\n\n", 0, NONE);
-        faultIs(0, "doc;put0 0a;", 0, NONE);
-        faultIs(0, "doc doc put;", 0, NONE);
-        faultIs(0, "doc a b c;put 00 03;", 0, NONE);
-        faultIs(0, "   ", 0, NONE);
-        faultIs(0, "\tdoc;", 1, 0);
-        faultIs(0, "doc A;", 1, 4);
-        faultIs(0, "doc;doca;", 1, 4);
-        faultIs(0, ";", 1, 0);
-        faultIs(0, "doc;;", 1, 4);
-        faultIs(0, "doc 1;", 1, 4);
-        faultIs(0, "phrase a;", 1, 0);
-        faultIs(0, "doc;put 0 000;", 1, 10);
-        faultIs(0, "doc;put 100 0;", 1, 8);
-        faultIs(0, "doc;put 0 a;", 1, 10);
-        faultIs(0, "doc;put 0 0 0;", 1, 12);
-        faultIs(0, "doc;cut 0 0;", 1, 11);
-        faultIs(0, "doc;move 0 0;", 1, 12);
-        faultIs(0, "doc;back 0 0 0;", 1, 13);
-        faultIs(0, "doc", 1, 3);
-        faultIs(0, "doc a  ", 1, 7);
-        faultIs(0, "doc;put", 1, 7);
-        faultIs(0, "doc;put 0", 1, 9);
-        faultIs(1, "phrase;", 1, 6);
-        faultIs(1, "phrase ", 1, 7);
-        faultIs(1, "phrase 1;", 1, 7);
-        faultIs(1, "near a 1;", 1, 7);
-        faultIs(1, "near a b;", 1, 8);
-        faultIs(1, "near a b 1 2;", 1, 11);
-        faultIs(1, "many a;", 1, 6);
-        faultIs(1, "many 1;", 1, 5);
-        faultIs(1, "phrase a;not a;", 1, 13);
-        faultIs(1, "phrase a;and 0;", 1, 14);
-        faultIs(1, "in 0 0;", 1, 0);
-        faultIs(2, "in 0;", 1, 4);
-        faultIs(2, "out 0 0 0;", 1, 8);
-        faultIs(2, "doc;", 1, 0);
+        Due.faultIs(0, "doc a b;put 0 1 c;", 0, NONE);
+        Due.faultIs(0, "\n doc\na ;\n\n", 0, NONE);
+        Due.faultIs(0, "doc;put0 0a;", 0, NONE);
+        Due.faultIs(0, "doc doc put;", 0, NONE);
+        Due.faultIs(0, "doc a b c;put 00 03;", 0, NONE);
+        Due.faultIs(0, "   ", 0, NONE);
+        Due.faultIs(0, "\tdoc;", 1, 0);
+        Due.faultIs(0, "doc A;", 1, 4);
+        Due.faultIs(0, "doc;doca;", 1, 4);
+        Due.faultIs(0, ";", 1, 0);
+        Due.faultIs(0, "doc;;", 1, 4);
+        Due.faultIs(0, "doc 1;", 1, 4);
+        Due.faultIs(0, "phrase a;", 1, 0);
+        Due.faultIs(0, "doc;put 0 000;", 1, 10);
+        Due.faultIs(0, "doc;put 100 0;", 1, 8);
+        Due.faultIs(0, "doc;put 0 a;", 1, 10);
+        Due.faultIs(0, "doc;put 0 0 0;", 1, 12);
+        Due.faultIs(0, "doc;cut 0 0;", 1, 11);
+        Due.faultIs(0, "doc;move 0 0;", 1, 12);
+        Due.faultIs(0, "doc;back 0 0 0;", 1, 13);
+        Due.faultIs(0, "doc", 1, 3);
+        Due.faultIs(0, "doc a  ", 1, 7);
+        Due.faultIs(0, "doc;put", 1, 7);
+        Due.faultIs(0, "doc;put 0", 1, 9);
+        Due.faultIs(1, "phrase;", 1, 6);
+        Due.faultIs(1, "phrase ", 1, 7);
+        Due.faultIs(1, "phrase 1;", 1, 7);
+        Due.faultIs(1, "near a 1;", 1, 7);
+        Due.faultIs(1, "near a b;", 1, 8);
+        Due.faultIs(1, "near a b 1 2;", 1, 11);
+        Due.faultIs(1, "many a;", 1, 6);
+        Due.faultIs(1, "many 1;", 1, 5);
+        Due.faultIs(1, "phrase a;not a;", 1, 13);
+        Due.faultIs(1, "phrase a;and 0;", 1, 14);
+        Due.faultIs(1, "in 0 0;", 1, 0);
+        Due.faultIs(2, "in 0;", 1, 4);
+        Due.faultIs(2, "out 0 0 0;", 1, 8);
+        Due.faultIs(2, "doc;", 1, 0);
     }
 
     private static void faultsOfArchives() {
-        faultIs(0, "doc abcd;", 0, NONE);
-        faultIs(0, "doc abcde;", 2, 4);
-        faultIs(0, "doc a;put 0 0 abcde;", 2, 14);
-        faultIs(0, "doc;put 4 0;", 2, 8);
-        faultIs(0, "doc;cut 4 0 1;", 2, 8);
-        faultIs(0, "doc;move 4 0 0;", 2, 9);
-        faultIs(0, "doc;cut 3 19 20;", 4, 4);
-        faultIs(0, "doc;move 3 19 19;", 4, 4);
-        faultIs(0, "doc;put 3 20;", 4, 4);
-        faultIs(0, "doc;back 3 9;", 4, 4);
-        faultIs(0, "doc;put 0 21;", 2, 10);
-        faultIs(0, "doc a;cut 0 20 1;", 2, 12);
-        faultIs(0, "doc a;cut 0 0 0;", 2, 14);
-        faultIs(0, "doc a;cut 0 0 21;", 2, 14);
-        faultIs(0, "doc a;cut 0 0 20;", 4, 6);
-        faultIs(0, "doc a;move 0 20 0;", 2, 13);
-        faultIs(0, "doc a;move 0 0 20;", 2, 15);
-        faultIs(0, "doc a;back 0 10;", 2, 13);
-        faultIs(0, "doc a;back 4 0;", 2, 11);
-        faultIs(0, "doc;doc;doc;doc;", 0, NONE);
-        faultIs(0, "doc;doc;doc;doc;doc;", 3, 16);
+        Due.faultIs(0, "doc abcd;", 0, NONE);
+        Due.faultIs(0, "doc abcde;", 2, 4);
+        Due.faultIs(0, "doc a;put 0 0 abcde;", 2, 14);
+        Due.faultIs(0, "doc;put 4 0;", 2, 8);
+        Due.faultIs(0, "doc;cut 4 0 1;", 2, 8);
+        Due.faultIs(0, "doc;move 4 0 0;", 2, 9);
+        Due.faultIs(0, "doc;cut 3 19 20;", 4, 4);
+        Due.faultIs(0, "doc;move 3 19 19;", 4, 4);
+        Due.faultIs(0, "doc;put 3 20;", 4, 4);
+        Due.faultIs(0, "doc;back 3 9;", 4, 4);
+        Due.faultIs(0, "doc;put 0 21;", 2, 10);
+        Due.faultIs(0, "doc a;cut 0 20 1;", 2, 12);
+        Due.faultIs(0, "doc a;cut 0 0 0;", 2, 14);
+        Due.faultIs(0, "doc a;cut 0 0 21;", 2, 14);
+        Due.faultIs(0, "doc a;cut 0 0 20;", 4, 6);
+        Due.faultIs(0, "doc a;move 0 20 0;", 2, 13);
+        Due.faultIs(0, "doc a;move 0 0 20;", 2, 15);
+        Due.faultIs(0, "doc a;back 0 10;", 2, 13);
+        Due.faultIs(0, "doc a;back 4 0;", 2, 11);
+        Due.faultIs(0, "doc;doc;doc;doc;", 0, NONE);
+        Due.faultIs(0, "doc;doc;doc;doc;doc;", 3, 16);
         String ten = "doc;put0 0;put0 0;put0 0;put0 0;put0 0;put0 0;put0 0;put0 0;put0 0;";
-        faultIs(0, ten, 0, NONE);
-        faultIs(0, ten + "put 0 0;", 3, ten.length());
-        faultIs(0, ten + "back 0 0;", 3, ten.length());
-        faultIs(0, ten + "cut 0 0 1;", 3, ten.length());
-        faultIs(0, ten + "doc;put 1 0 a;", 0, NONE);
+        Due.faultIs(0, ten, 0, NONE);
+        Due.faultIs(0, ten + "put 0 0;", 3, ten.length());
+        Due.faultIs(0, ten + "back 0 0;", 3, ten.length());
+        Due.faultIs(0, ten + "cut 0 0 1;", 3, ten.length());
+        Due.faultIs(0, ten + "doc;put 1 0 a;", 0, NONE);
         String twenty = "doc a a a a a a a a a a a a a a a a a a a a";
-        faultIs(0, twenty + ";", 0, NONE);
-        faultIs(0, twenty + " a;", 3, twenty.length() + 1);
-        faultIs(0, twenty + ";put 0 20;", 0, NONE);
-        faultIs(0, twenty + ";put 0 20 a;", 3, twenty.length() + 10);
-        faultIs(0, twenty + ";cut 0 19 1;put 0 0 a;", 0, NONE);
-        faultIs(0, twenty + ";cut 0 19 1;put 0 0 a b;", 3, twenty.length() + 22);
-        faultIs(0, "put 0 0;", 4, 0);
-        faultIs(0, "doc a;put 0 1 b;", 0, NONE);
-        faultIs(0, "doc a;put 0 2 b;", 4, 6);
-        faultIs(0, "doc a b;cut 0 0 2;", 0, NONE);
-        faultIs(0, "doc a b;cut 0 1 2;", 4, 8);
-        faultIs(0, "doc a b;cut 0 2 1;", 4, 8);
-        faultIs(0, "doc a;move 0 0 0;", 0, NONE);
-        faultIs(0, "doc a;move 0 0 1;", 4, 6);
-        faultIs(0, "doc a;move 0 1 0;", 4, 6);
-        faultIs(0, "doc a b;move 0 0 1;", 0, NONE);
-        faultIs(0, "doc a b;move 0 0 2;", 4, 8);
-        faultIs(0, "doc;move 0 0 0;", 4, 4);
-        faultIs(0, "doc;back 0 0;", 0, NONE);
-        faultIs(0, "doc;back 0 1;", 4, 4);
-        faultIs(0, "doc;back 1 0;", 4, 4);
+        Due.faultIs(0, twenty + ";", 0, NONE);
+        Due.faultIs(0, twenty + " a;", 3, twenty.length() + 1);
+        Due.faultIs(0, twenty + ";put 0 20;", 0, NONE);
+        Due.faultIs(0, twenty + ";put 0 20 a;", 3, twenty.length() + 10);
+        Due.faultIs(0, twenty + ";cut 0 19 1;put 0 0 a;", 0, NONE);
+        Due.faultIs(0, twenty + ";cut 0 19 1;put 0 0 a b;", 3, twenty.length() + 22);
+        Due.faultIs(0, "put 0 0;", 4, 0);
+        Due.faultIs(0, "doc a;put 0 1 b;", 0, NONE);
+        Due.faultIs(0, "doc a;put 0 2 b;", 4, 6);
+        Due.faultIs(0, "doc a b;cut 0 0 2;", 0, NONE);
+        Due.faultIs(0, "doc a b;cut 0 1 2;", 4, 8);
+        Due.faultIs(0, "doc a b;cut 0 2 1;", 4, 8);
+        Due.faultIs(0, "doc a;move 0 0 0;", 0, NONE);
+        Due.faultIs(0, "doc a;move 0 0 1;", 4, 6);
+        Due.faultIs(0, "doc a;move 0 1 0;", 4, 6);
+        Due.faultIs(0, "doc a b;move 0 0 1;", 0, NONE);
+        Due.faultIs(0, "doc a b;move 0 0 2;", 4, 8);
+        Due.faultIs(0, "doc;move 0 0 0;", 4, 4);
+        Due.faultIs(0, "doc;back 0 0;", 0, NONE);
+        Due.faultIs(0, "doc;back 0 1;", 4, 4);
+        Due.faultIs(0, "doc;back 1 0;", 4, 4);
     }
 
     private static void faultsOfQuestions() {
-        faultIs(1, "phrase a b c d;", 0, NONE);
-        faultIs(1, "phrase a b c d e;", 3, 15);
-        faultIs(1, "phrase a b c d abcde;", 2, 15);
-        faultIs(1, "phrase a b c abcde e;", 2, 13);
-        faultIs(1, "near a b 1;near a b 9;", 0, NONE);
-        faultIs(1, "near a b 0;", 2, 9);
-        faultIs(1, "near a b 10;", 2, 9);
-        faultIs(1, "near a abcde 0;", 2, 7);
-        faultIs(1, "many a 0;", 2, 7);
-        faultIs(1, "many a 10;", 2, 7);
-        faultIs(1, "many a 9;", 0, NONE);
-        faultIs(1, "not 0;", 2, 4);
-        faultIs(1, "phrase a;not 0;", 0, NONE);
-        faultIs(1, "phrase a;not 1;", 2, 13);
-        faultIs(1, "phrase a;not 8;", 2, 13);
-        faultIs(1, "phrase a;ever 1;", 2, 14);
-        faultIs(1, "phrase a;new 1;", 2, 13);
-        faultIs(1, "phrase a;and 0 0;", 0, NONE);
-        faultIs(1, "phrase a;and 0 1;", 2, 15);
-        faultIs(1, "phrase a;or 1 0;", 2, 12);
+        Due.faultIs(1, "phrase a b c d;", 0, NONE);
+        Due.faultIs(1, "phrase a b c d e;", 3, 15);
+        Due.faultIs(1, "phrase a b c d abcde;", 2, 15);
+        Due.faultIs(1, "phrase a b c abcde e;", 2, 13);
+        Due.faultIs(1, "near a b 1;near a b 9;", 0, NONE);
+        Due.faultIs(1, "near a b 0;", 2, 9);
+        Due.faultIs(1, "near a b 10;", 2, 9);
+        Due.faultIs(1, "near a abcde 0;", 2, 7);
+        Due.faultIs(1, "many a 0;", 2, 7);
+        Due.faultIs(1, "many a 10;", 2, 7);
+        Due.faultIs(1, "many a 9;", 0, NONE);
+        Due.faultIs(1, "not 0;", 2, 4);
+        Due.faultIs(1, "phrase a;not 0;", 0, NONE);
+        Due.faultIs(1, "phrase a;not 1;", 2, 13);
+        Due.faultIs(1, "phrase a;not 8;", 2, 13);
+        Due.faultIs(1, "phrase a;ever 1;", 2, 14);
+        Due.faultIs(1, "phrase a;new 1;", 2, 13);
+        Due.faultIs(1, "phrase a;and 0 0;", 0, NONE);
+        Due.faultIs(1, "phrase a;and 0 1;", 2, 15);
+        Due.faultIs(1, "phrase a;or 1 0;", 2, 12);
         String eight = "many a 1;not 0;not 1;not 2;not 3;not 4;not 5;and 6 6;";
-        faultIs(1, eight, 0, NONE);
-        faultIs(1, eight + "not 7;", 3, eight.length());
-        faultIs(1, eight + "not 8;", 3, eight.length());
+        Due.faultIs(1, eight, 0, NONE);
+        Due.faultIs(1, eight + "not 7;", 3, eight.length());
+        Due.faultIs(1, eight + "not 8;", 3, eight.length());
     }
 
     private static void faultsOfHunts() {
-        faultIs(2, "in 3 9;out 3 9;", 0, NONE);
-        faultIs(2, "in 4 0;", 2, 3);
-        faultIs(2, "out 4 0;", 2, 4);
-        faultIs(2, "in 0 10;", 2, 5);
-        faultIs(2, "out 0 10;", 2, 6);
+        Due.faultIs(2, "in 3 9;out 3 9;", 0, NONE);
+        Due.faultIs(2, "in 4 0;", 2, 3);
+        Due.faultIs(2, "out 4 0;", 2, 4);
+        Due.faultIs(2, "in 0 10;", 2, 5);
+        Due.faultIs(2, "out 0 10;", 2, 6);
         String eight = "in0 0;in0 0;in0 0;in0 0;in0 0;in0 0;in0 0;in0 0;";
-        faultIs(2, eight, 0, NONE);
-        faultIs(2, eight + "in 0 0;", 3, eight.length());
-        faultIs(2, eight + "in 9 0;", 3, eight.length());
+        Due.faultIs(2, eight, 0, NONE);
+        Due.faultIs(2, eight + "in 0 0;", 3, eight.length());
+        Due.faultIs(2, eight + "in 9 0;", 3, eight.length());
     }
 
     private static void faultOrder() {
-        faultIs(0, "doc abcde;put 0 0;#", 1, 18);
-        faultIs(0, "put 0 0;doc", 1, 11);
-        faultIs(0, "put 0 0;doc abcde;", 4, 0);
-        faultIs(0, "put 0 0 abcde;", 2, 8);
-        faultIs(0, "put 0 21 abcde;", 2, 6);
-        faultIs(0, "doc;doc;doc;doc;doc abcde;", 3, 16);
+        Due.faultIs(0, "doc abcde;put 0 0;#", 1, 18);
+        Due.faultIs(0, "put 0 0;doc", 1, 11);
+        Due.faultIs(0, "put 0 0;doc abcde;", 4, 0);
+        Due.faultIs(0, "put 0 0 abcde;", 2, 8);
+        Due.faultIs(0, "put 0 21 abcde;", 2, 6);
+        Due.faultIs(0, "doc;doc;doc;doc;doc abcde;", 3, 16);
         String ten = "doc;put0 0;put0 0;put0 0;put0 0;put0 0;put0 0;put0 0;put0 0;put0 0;";
-        faultIs(0, ten + "put 0 5;", 3, ten.length());
-        faultIs(0, ten + "put 0 21;", 2, ten.length() + 6);
-        faultIs(0, ten + "put 0 0 abcde;", 2, ten.length() + 8);
+        Due.faultIs(0, ten + "put 0 5;", 3, ten.length());
+        Due.faultIs(0, ten + "put 0 21;", 2, ten.length() + 6);
+        Due.faultIs(0, ten + "put 0 0 abcde;", 2, ten.length() + 8);
         String words = " a a a a a a a a a a a a a a a a a a a a";
-        faultIs(0, "doc" + words + " abcde;", 2, 44);
-        faultIs(0, "doc" + words + " a abcde;", 3, 44);
-        faultIs(0, "put 0 0" + words + " a abcde;", 3, 48);
-        faultIs(0, "put 0 0" + words + " a;", 4, 0);
-        faultIs(0, "doc a;put 0 0" + words + " abcde;", 3, 6 + 7 + 39);
-        faultIs(0, "doc a;put 0 2" + words + ";", 4, 6);
+        Due.faultIs(0, "doc" + words + " abcde;", 2, 44);
+        Due.faultIs(0, "doc" + words + " a abcde;", 3, 44);
+        Due.faultIs(0, "put 0 0" + words + " a abcde;", 3, 48);
+        Due.faultIs(0, "put 0 0" + words + " a;", 4, 0);
+        Due.faultIs(0, "doc a;put 0 0" + words + " abcde;", 3, 6 + 7 + 39);
+        Due.faultIs(0, "doc a;put 0 2" + words + ";", 4, 6);
     }
 
     private static void faultPlaces() {
@@ -315,7 +298,7 @@ public final class PromisesTest {
     }
 
     private static void archive() {
-        VersionSearch x = with(ARCHIVE, "", "");
+        VersionSearch x = Due.with(ARCHIVE, "", "");
         Due.is("DOCUMENTS", x.archive(0, 0), 2);
         Due.is("VERSIONS", x.archive(0, 1), 6);
         Due.is("SIZE", x.archive(0, 2), 4 + 5 + 3 + 4 + 2 + 2);
@@ -354,7 +337,7 @@ public final class PromisesTest {
     }
 
     private static void passages() {
-        VersionSearch x = with("doc a b c d;", "", "");
+        VersionSearch x = Due.with("doc a b c d;", "", "");
         Due.is("one version", x.archive(0, 20), 1);
         Due.is("one version, longest", x.archive(0, 30), 4);
         Due.text(x, 0, 0, "doc a b c d;move 0 0 1;");
@@ -371,7 +354,7 @@ public final class PromisesTest {
     }
 
     private static void returnsAndTwins() {
-        VersionSearch x = with("doc a b;back 0 0;put 0 0 c;back 0 0;back 0 2;back 0 2;", "", "");
+        VersionSearch x = Due.with("doc a b;back 0 0;put 0 0 c;back 0 0;back 0 2;back 0 2;", "", "");
         Due.is("RETURNS", x.archive(0, 50), 2);
         Due.is("TWINS", x.archive(0, 6), 3 + 3);
         Due.text(x, 0, 0, "doc a;doc a;put 1 0 b;cut 1 0 1;cut 0 0 1;doc;");
@@ -382,7 +365,7 @@ public final class PromisesTest {
     }
 
     private static void version() {
-        VersionSearch x = with(ARCHIVE, "", "");
+        VersionSearch x = Due.with(ARCHIVE, "", "");
         Due.is("WORDS", x.version(0, 0, 0, 0), 4);
         Due.is("WORDS of the cut one", x.version(0, 0, 2, 0), 3);
         Due.is("DATE", x.version(0, 0, 1, 1), 2);
@@ -421,7 +404,7 @@ public final class PromisesTest {
     }
 
     private static void turnedAndOldest() {
-        VersionSearch x = with("doc a b c d;move 0 3 0;move 0 0 2;put 0 0 e;cut 0 0 1;put 0 0 f;back 0 3;", "", "");
+        VersionSearch x = Due.with("doc a b c d;move 0 3 0;move 0 0 2;put 0 0 e;cut 0 0 1;put 0 0 f;back 0 3;", "", "");
         Due.is("TURNED d to the front", x.version(0, 0, 1, 4), 3);
         Due.is("TURNED d two on", x.version(0, 0, 2, 4), 2);
         Due.is("TURNED by put", x.version(0, 0, 3, 4), 0);
@@ -431,7 +414,7 @@ public final class PromisesTest {
     }
 
     private static void life() {
-        VersionSearch x = with(ARCHIVE, "", "");
+        VersionSearch x = Due.with(ARCHIVE, "", "");
         Due.is("first", x.life(0, 0, 3, 3, 0), 0);
         Due.is("last", x.life(0, 0, 0, 3, 1), 3);
         Due.is("how many", x.life(0, 0, 0, 3, 2), 3);
@@ -449,7 +432,7 @@ public final class PromisesTest {
     }
 
     private static void word() {
-        VersionSearch x = with("doc b ab a;doc b b abc;put 0 0 z b;cut 1 0 1;", "", "");
+        VersionSearch x = Due.with("doc b ab a;doc b b abc;put 0 0 z b;cut 1 0 1;", "", "");
         int[] order = {A, Due.word("ab"), Due.word("abc"), B, Due.word("z")};
         for (int k = 0; k < order.length; k++) {
             Due.is("word " + k, x.word(0, k, 0), order[k]);
@@ -473,7 +456,7 @@ public final class PromisesTest {
     }
 
     private static void dated() {
-        VersionSearch x = with(ARCHIVE, "", "");
+        VersionSearch x = Due.with(ARCHIVE, "", "");
         int[] documents = {0, 1, 0, 0, 0, 1};
         for (int date = 0; date < documents.length; date++) {
             Due.is("DATED " + date, x.dated(0, date), documents[date]);
@@ -484,7 +467,7 @@ public final class PromisesTest {
     }
 
     private static void shared() {
-        VersionSearch x = with(ARCHIVE, "", "");
+        VersionSearch x = Due.with(ARCHIVE, "", "");
         Due.is("SHARED 0 1", x.shared(0, 0, 0, 1), 4);
         Due.is("SHARED 2 3", x.shared(0, 0, 2, 3), 2);
         Due.is("SHARED 1 1", x.shared(0, 0, 1, 1), 5);
@@ -498,7 +481,7 @@ public final class PromisesTest {
     }
 
     private static void common() {
-        VersionSearch x = with(ARCHIVE, "", "");
+        VersionSearch x = Due.with(ARCHIVE, "", "");
         Due.is("COMMON of abac, bc", x.common(0, 0, 0, 1, 0), 2);
         Due.is("COMMON of abac, cb", x.common(0, 0, 0, 1, 1), 1);
         Due.is("COMMON of adbac, abac", x.common(0, 0, 1, 0, 0), 4);
@@ -515,7 +498,7 @@ public final class PromisesTest {
     }
 
     private static void question() {
-        VersionSearch x = with("", QUESTIONS, "");
+        VersionSearch x = Due.with("", QUESTIONS, "");
         Due.is("how many", x.question(0, NONE, 0), 8);
         Due.is("NONE, what 1", x.question(0, NONE, 1), -2);
         int[][] rows = {{0, 2, NONE}, {1, 2, NONE}, {2, 2, NONE}, {3, 0, NONE}, {4, 0, NONE}, {5, 1, NONE}, {6, 1, 3}, {7, 0, 2}};
@@ -543,7 +526,7 @@ public final class PromisesTest {
     }
 
     private static void holds() {
-        VersionSearch x = with(ARCHIVE, QUESTIONS, "");
+        VersionSearch x = Due.with(ARCHIVE, QUESTIONS, "");
         // phrase a c: abac yes, adbac yes, adb no, abac yes; bc no, cb no
         int[][] first = {
             {1, 1, 0, 1}, {1, 1, 0, 1}, {1, 1, 0, 1}, {0, 0, 1, 0}, {1, 1, 1, 1}, {1, 0, 0, 1}, {0, 0, 0, 0}, {1, 1, 0, 1}};
@@ -566,7 +549,7 @@ public final class PromisesTest {
     }
 
     private static void heldBy(String row, String question, int want) {
-        VersionSearch x = with("doc " + row + ";", question + ";", "");
+        VersionSearch x = Due.with("doc " + row + ";", question + ";", "");
         Due.is(question + " in " + row, x.holds(0, 0, 0, 0, 0), want);
     }
 
@@ -586,7 +569,7 @@ public final class PromisesTest {
         heldBy("a x x x x x x x x x b", "near a b 9", 0);
         heldBy("a b a", "many a 2", 1);
         heldBy("a b a", "many a 3", 0);
-        VersionSearch x = with("doc b;put 0 0 a;cut 0 0 1;put 0 0 a;doc a;put 1 0 b;", "phrase a;new 0;ever 0;not 2;ever 3;", "");
+        VersionSearch x = Due.with("doc b;put 0 0 a;cut 0 0 1;put 0 0 a;doc a;put 1 0 b;", "phrase a;new 0;ever 0;not 2;ever 3;", "");
         int[][] held = {{0, 1, 0, 1, 1, 1}, {0, 1, 0, 1, 1, 0}, {0, 1, 1, 1, 1, 1}, {1, 0, 0, 0, 0, 0}, {1, 1, 1, 1, 0, 0}};
         for (int k = 0; k < 5; k++) {
             for (int i = 0; i < 6; i++) {
@@ -596,7 +579,7 @@ public final class PromisesTest {
     }
 
     private static void spans() {
-        VersionSearch x = with(ARCHIVE, QUESTIONS, "");
+        VersionSearch x = Due.with(ARCHIVE, QUESTIONS, "");
         Due.is("how many", x.spans(0, 0, 0, 0, NONE, false), 2);
         Due.is("how many, last", x.spans(0, 0, 0, 0, NONE, true), 2);
         Due.is("first of 0", x.spans(0, 0, 0, 0, 0, false), 0);
@@ -614,7 +597,7 @@ public final class PromisesTest {
     }
 
     private static void times() {
-        VersionSearch x = with("doc a a a b a a;doc;", "phrase a a;phrase a;many a 1;phrase a a b a;", "");
+        VersionSearch x = Due.with("doc a a a b a a;doc;", "phrase a a;phrase a;many a 1;phrase a a b a;", "");
         Due.is("TIMES, one over the other", x.times(0, 0, 0, 0, 0), 3);
         Due.is("TIMES of one word", x.times(0, 0, 1, 0, 0), 5);
         Due.is("TIMES of four", x.times(0, 0, 3, 0, 0), 1);
@@ -627,7 +610,7 @@ public final class PromisesTest {
     }
 
     private static void found() {
-        VersionSearch x = with(ARCHIVE, QUESTIONS, "");
+        VersionSearch x = Due.with(ARCHIVE, QUESTIONS, "");
         Due.is("EVER", x.found(0, 0, 0, 0), 1);
         Due.is("ALWAYS", x.found(0, 0, 0, 1), 0);
         Due.is("EVER of not", x.found(0, 0, 3, 0), 3);
@@ -668,7 +651,7 @@ public final class PromisesTest {
     }
 
     private static void ranks() {
-        VersionSearch x = with("doc a;put 0 0 b;cut 0 0 2;doc;put 1 0 a;back 1 1;doc b;doc;put 3 0 a a;", "phrase a;", "");
+        VersionSearch x = Due.with("doc a;put 0 0 b;cut 0 0 2;doc;put 1 0 a;back 1 1;doc b;doc;put 3 0 a a;", "phrase a;", "");
         int[] order = {1, 0, 3, 2};
         for (int i = 0; i < 4; i++) {
             Due.is("RANK " + i, x.found(0, 0, 0, 10 + i), order[i]);
@@ -681,7 +664,7 @@ public final class PromisesTest {
     }
 
     private static void best() {
-        VersionSearch x = with(ARCHIVE, QUESTIONS, "");
+        VersionSearch x = Due.with(ARCHIVE, QUESTIONS, "");
         Due.is("BEST", x.best(0, 0, 0), 4);
         // 0, 1, 2 and 7 hold in the same versions; all others in some of their own
         Due.is("SAME", x.best(0, 0, 1), 6);
@@ -698,7 +681,7 @@ public final class PromisesTest {
     }
 
     private static void implies() {
-        VersionSearch x = with(ARCHIVE, QUESTIONS, "");
+        VersionSearch x = Due.with(ARCHIVE, QUESTIONS, "");
         Due.is("0 -> 4", x.implies(0, 0, 0, 4), 1);
         Due.is("4 -> 0", x.implies(0, 0, 4, 0), 0);
         Due.is("0 -> 3", x.implies(0, 0, 0, 3), 0);
@@ -712,7 +695,7 @@ public final class PromisesTest {
     }
 
     private static void fact() {
-        VersionSearch x = with("", "", "in 0 1;out 3 9;");
+        VersionSearch x = Due.with("", "", "in 0 1;out 3 9;");
         Due.is("how many", x.fact(0, NONE, 0), 2);
         Due.is("NONE, what 1", x.fact(0, NONE, 1), -2);
         int[][] rows = {{1, 0, 1}, {0, 3, 9}};
@@ -729,7 +712,7 @@ public final class PromisesTest {
     }
 
     private static void fits() {
-        VersionSearch x = with(ARCHIVE, "", "in 0 1;out 0 0;");
+        VersionSearch x = Due.with(ARCHIVE, "", "in 0 1;out 0 0;");
         Due.is("how many: d", x.fits(0, 0, 0), 1);
         Due.is("SURE", x.fits(0, 0, 1), 4);
         Due.is("ASK of one: all alike", x.fits(0, 0, 2), 0);
@@ -766,7 +749,7 @@ public final class PromisesTest {
     }
 
     private static void drawn() {
-        VersionSearch x = with(ARCHIVE, "", "");
+        VersionSearch x = Due.with(ARCHIVE, "", "");
         Due.is("n 0: VERSIONS", x.drawn(0, 7, 0, 0, 0), 4);
         Due.is("n 0: WORDS", x.drawn(0, 7, 0, 0, 1), 4);
         Due.is("n 0: TOKENS", x.drawn(0, 7, 0, 0, 2), 5);
@@ -814,8 +797,8 @@ public final class PromisesTest {
     }
 
     private static void drawnEdges() {
-        VersionSearch x = with("doc;", "", "");
         for (int seed = 0; seed < 20; seed++) {
+            VersionSearch x = Due.with("doc;", "", "");
             int versions = 1;
             int state = seed;
             for (int n = 0; n <= 40; n++) {
@@ -828,7 +811,7 @@ public final class PromisesTest {
                 }
             }
         }
-        Due.text(x, 0, 0, "doc a a a a a a a a a a a a a a a a a a a b;");
+        VersionSearch x = Due.with("doc a a a a a a a a a a a a a a a a a a a b;", "", "");
         for (int seed = 0; seed < 40; seed++) {
             int deed = (next(next(seed)) >>> 16) % 6;
             Due.is("a 21st word is not put", x.drawn(0, seed, 1, 0, 0), deed == 2 || deed == 3 ? 1 : 2);
@@ -856,7 +839,7 @@ public final class PromisesTest {
     }
 
     private static void images() {
-        VersionSearch x = with(ARCHIVE, QUESTIONS, "in 0 0;");
+        VersionSearch x = Due.with(ARCHIVE, QUESTIONS, "in 0 0;");
         Due.text(x, 0, NONE, "doc abcde;");
         Due.tape(x, "doc a;doc b;");
         Due.is("image 0", x.image(0), true);
