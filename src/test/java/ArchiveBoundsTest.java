@@ -498,7 +498,7 @@ public final class ArchiveBoundsTest {
     }
 
     private static void life() {
-        Due.sentence("LIFE, what 0: the first, 1: the last, 2: how many, 3: rows");
+        Due.sentence("the first, the last VERSION in which it is; in how many it is; how many longest rows of these there are, one behind the other");
         VersionSearch x = told("doc a b;cut 0 0 1;put 0 0 c;back 0 0;back 0 2;back 0 2;cut 0 0 2;back 0 0;back 0 6;back 0 2;doc d;");
         // a: 0, 3, 7; b: 0 1 2 3 4 5 7 9; c: 2, 4, 5, 9
         int[][] want = {{0, 7, 3, 3}, {0, 9, 8, 3}, {2, 9, 4, 3}};
@@ -516,7 +516,7 @@ public final class ArchiveBoundsTest {
     }
 
     private static void lifeNoneSuch() {
-        Due.sentence("LIFE .. NONE: there is none such (of any), or for another what.");
+        Due.sentence("LIFE, what 0: the first, 1: the last, 2: how many, 3: rows. NONE: there is none such (of any), or for another what.");
         VersionSearch x = told(ARCHIVE);
         for (int far : FAR) {
             Due.is("what " + far, x.life(0, 0, 0, 0, far), NONE);
@@ -626,6 +626,7 @@ public final class ArchiveBoundsTest {
         for (int date = 0; date < 100; date++) {
             Due.is("date " + date, x.dated(0, date), date < want.length ? want[date] : NONE);
         }
+        Due.sentence("DATED. NONE: none, or there is none such.");
         for (int far : FAR) {
             Due.is("date " + far, x.dated(0, far), NONE);
             Due.is("archive " + far, x.dated(far, 0), NONE);

@@ -218,7 +218,7 @@ public final class HuntBoundsTest {
     }
 
     private static void fitsNoneSuch() {
-        Due.sentence("What 0: how many FIT, 1: SURE (NONE: not one, or nothing FITS), 2: ASK (NONE: nothing FITS), 10 + k: the k-th. -2: there is none such (of any), or for another what.");
+        Due.sentence("What 0: how many FIT, 1: SURE (NONE: not one, or nothing FITS), 2: ASK (NONE: nothing FITS), 10 + k: the k-th, as a number. -2: there is none such (of any), or for another what.");
         VersionSearch x = told(ARCHIVE, "out 0 9;");
         for (int what = 3; what < 40; what++) {
             Due.is("what " + what, x.fits(0, 0, what), what >= 10 && what < 14 ? what - 9 : -2);
@@ -457,7 +457,7 @@ public final class HuntBoundsTest {
             drawnIs(ten, seed, 40, 0, 10, 3, "abc");
             Due.is("no 11th by 40 times, deed " + deed, nine.drawn(0, seed, 40, 0, 0), 10);
         }
-        Due.sentence("at 10 VERSIONS nothing is: told, but its numbers are drawn");
+        // Nothing is told there, but the numbers are drawn all the same: the next deed is by those behind them.
         VersionSearch two = told("doc a b c;" + "put0 0;".repeat(9) + "doc d e f;", "");
         int[] numbers = {1, 1, 1, 1, 2, 1};
         int[] below = {3, 3, 4, 4, 3, 10};

@@ -178,7 +178,7 @@ public final class QuestionBoundsTest {
     }
 
     private static void questionsOfQuestions() {
-        Due.sentence("not, ever, new, and, or: QUESTIONS of lesser numbers");
+        Due.sentence("all others: QUESTIONS of lesser numbers, 0 .. 7");
         String archive = "doc;put 0 0 a;put 0 0 b;cut 0 1 1;back 0 1;";
         heldIn(archive, "phrase a;", "01101");
         heldIn(archive, "phrase a;not 0;", "10010");
@@ -326,7 +326,7 @@ public final class QuestionBoundsTest {
     }
 
     private static void spansOfTen() {
-        Due.sentence("how many; of the k-th the first, the last VERSION");
+        Due.sentence("how many (span NONE), or of one the first VERSION, or (last) the last one");
         VersionSearch x = told(BY_TURNS, "phrase a;not 0;ever 0;or 0 1;");
         for (int document = 0; document < 4; document++) {
             spansAre(x, 0, document, new int[][] {{1, 1}, {3, 3}, {5, 5}, {7, 7}, {9, 9}});

@@ -45,6 +45,7 @@ public final class TextBoundsTest {
         noTextGoesOn();
         theEnd();
         noTextGoesFirst();
+        canNotBe();
         firstByPlace();
         leastOfOnePlace();
         toldAllTheSame();
@@ -111,7 +112,8 @@ public final class TextBoundsTest {
         Due.is("fault's place", x.fault(1), NONE);
         Due.is("the tape's 0 bytes", x.end(0), 0);
         Due.is("a tape's byte", x.end(1), NONE);
-        Due.is("the constant", NONE, -1);
+        Due.sentence("The constants: NONE = -1: There is none.");
+        Due.is("NONE", NONE, -1);
     }
 
     private static void calls512() {
@@ -401,7 +403,7 @@ public final class TextBoundsTest {
 
     /** Each keyword begins a line in a text of its own sort alone. */
     private static void sortsOfLines() {
-        Due.sentence("An ARCHIVE's text, A text of QUESTIONS, A HUNT's text");
+        Due.sentence("taken .. as a text of a sort");
         String[] lines = {
             "0doc;", "0put 0 0;", "0cut 0 0 1;", "0move 0 0 0;", "0back 0 0;", "1phrase a;", "1near a b 1;", "1many a 1;",
             "1not 0;", "1ever 0;", "1new 0;", "1and 0 0;", "1or 0 0;", "2in 0 0;", "2out 0 0;"};
@@ -415,7 +417,7 @@ public final class TextBoundsTest {
     }
 
     private static void dates() {
-        Due.sentence("its DATE is the number of its line, from 0 on");
+        Due.sentence("Each line makes a VERSION; its DATE is the number of its line, from 0 on");
         VersionSearch x = told("doc;doc;put 0 0;put 1 0;back 0 0;doc;");
         int[][] dates = {{0, 2, 4}, {1, 3}, {5}};
         for (int document = 0; document < 3; document++) {
@@ -587,6 +589,21 @@ public final class TextBoundsTest {
         Due.faultIs(0, "put 0 0;put 0 0", 1, 15);
         Due.faultIs(1, "not 0;not", 1, 9);
         Due.faultIs(2, "in 4 0;in 0 000;", 1, 12);
+    }
+
+    private static void canNotBe() {
+        Due.sentence("2 a NUMBER or WORD that can't be (as above; a WORD of more letters; a QUESTION that is not of a lesser number");
+        Due.noFault(0, "doc a;doc;doc;doc;put 3 0 abcd;");
+        Due.faultIs(0, "doc a;doc;doc;doc;put 4 0 abcd;", 2, 22);
+        Due.faultIs(0, "doc a;doc;doc;doc;put 3 0 abcde;", 2, 26);
+        Due.faultIs(0, "doc a;doc;doc;doc;put 3 21 abcd;", 2, 24);
+        Due.noFault(1, "many a 1;many a 9;not 1;");
+        Due.faultIs(1, "many a 1;many a 9;not 2;", 2, 22);
+        Due.faultIs(1, "many a 1;many a 9;not 3;", 2, 22);
+        Due.faultIs(1, "many a 1;many abcde 9;not 1;", 2, 14);
+        Due.noFault(2, "out 3 9;");
+        Due.faultIs(2, "out 4 9;", 2, 4);
+        Due.faultIs(2, "out 3 10;", 2, 6);
     }
 
     private static void firstByPlace() {
