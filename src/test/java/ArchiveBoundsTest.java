@@ -40,6 +40,7 @@ public final class ArchiveBoundsTest {
         oldest();
         wordNumbers();
         wordAtPlace();
+        documentsApart();
         life();
         lifeNoneSuch();
         wordsByLetters();
@@ -274,6 +275,8 @@ public final class ArchiveBoundsTest {
         answers("doc a;back 0 0;back 0 0;", 6, 3);
         answers("doc a;doc a;doc a;doc a;", 6, 6);
         answers("doc a;back 0 0;doc a;put 1 0 b;", 6, 3);
+        answers("doc;put0 0;put0 0;put0 0 a;doc;put1 0 a;", 6, 7);
+        answers("doc a;back 0 0;doc a;put 1 0 b;cut 1 0 1;doc a;", 6, 10);
     }
 
     private static void words() {
@@ -454,6 +457,15 @@ public final class ArchiveBoundsTest {
         Due.is("turned", y.version(0, 1, 1, 4), 1);
         Due.is("turned again, by the one just ahead", y.version(0, 1, 2, 4), 1);
         Due.is("the same words are couples too", told("doc a a;move 0 0 1;").version(0, 0, 1, 4), 1);
+        VersionSearch z = told("doc a;put 0 1 b c d;move 0 2 3;move 0 0 3;doc e;doc a;put 2 0 b;put 2 0 c d e;move 2 2 0;put 2 2 f;move 2 4 5;");
+        int[] longer = {0, 0, 1, 3};
+        int[] later = {0, 0, 0, 2, 0, 1};
+        for (int v = 0; v < longer.length; v++) {
+            Due.is("longer than the first one, version " + v, z.version(0, 0, v, 4), longer[v]);
+        }
+        for (int v = 0; v < later.length; v++) {
+            Due.is("of a later document, version " + v, z.version(0, 2, v, 4), later[v]);
+        }
         String twenty = "doc" + " a".repeat(20) + ";move 0 0 19;";
         Due.is("of twenty", told(twenty).version(0, 0, 1, 4), 19);
     }
@@ -495,6 +507,25 @@ public final class ArchiveBoundsTest {
         rowIs(x, 0, 1, "ae");
         rowIs(x, 0, 2, "");
         rowIs(x, 0, 3, "z");
+    }
+
+    /** What comes to the tenth version of a document leaves the first one of the next document as it is. */
+    private static void documentsApart() {
+        Due.sentence("a VERSION is a row of at most 20 WORDS");
+        String[] lines = {"cut 0 0 1;", "cut 0 19 1;", "cut 0 0 20;", "move 0 0 19;", "move 0 19 0;", "put 0 20;", "put 0 0;", "back 0 3;"};
+        String twenty = "a".repeat(19) + "z";
+        String[] rows = {
+            twenty.substring(1), "a".repeat(19), "", "a".repeat(18) + "za", "z" + "a".repeat(19), twenty, twenty, twenty};
+        for (int i = 0; i < lines.length; i++) {
+            VersionSearch x = told("doc" + " a".repeat(19) + " z;doc b c;doc d;" + "back0 0;".repeat(8) + lines[i]);
+            rowIs(x, 0, 9, rows[i]);
+            rowIs(x, 0, 8, twenty);
+            rowIs(x, 1, 0, "bc");
+            rowIs(x, 2, 0, "d");
+        }
+        VersionSearch x = told("doc" + " a".repeat(18) + ";doc b c;" + "back0 0;".repeat(8) + "put 0 18 y z;");
+        rowIs(x, 0, 9, "a".repeat(18) + "yz");
+        rowIs(x, 1, 0, "bc");
     }
 
     private static void life() {
@@ -584,6 +615,11 @@ public final class ArchiveBoundsTest {
         for (int k = 0; k < want.length; k++) {
             Due.is("word " + k, x.word(0, k, 3), want[k]);
         }
+        VersionSearch w = told("doc c;put 0 0 a;put 0 0;doc b a;put 1 0 b;back 0 1;put 1 0 c;");
+        int[] first = {1, 3, 0};
+        for (int k = 0; k < first.length; k++) {
+            Due.is("word " + k + " of several versions", w.word(0, k, 3), first[k]);
+        }
         VersionSearch y = told("doc;doc;doc;doc z;put 0 0 y;put 1 0 z;");
         Due.is("of a later document", y.word(0, 1, 3), 3);
         Due.is("of a later version", y.word(0, 0, 3), 4);
@@ -597,6 +633,12 @@ public final class ArchiveBoundsTest {
             Due.is("word " + k, x.word(0, k, 4), want[k]);
         }
         Due.is("of one", told("doc;doc b;").word(0, 0, 4), 1);
+        VersionSearch y = told("doc b;put 0 0 a a;put 0 0 a;");
+        Due.is("a, of one document", y.word(0, 0, 4), 3);
+        Due.is("b, of one document", y.word(0, 1, 4), 1);
+        VersionSearch z = told("doc b;doc b;put 1 0 b a;put 1 0 a;put 1 0 b;cut 1 0 4;");
+        Due.is("a, of a later document", z.word(0, 0, 4), 2);
+        Due.is("b, of a later document", z.word(0, 1, 4), 3);
         Due.is("not of two versions together", told("doc a;back 0 0;doc a;").word(0, 0, 4), 1);
     }
 
@@ -647,7 +689,16 @@ public final class ArchiveBoundsTest {
                 Due.is("versions " + a + " " + b, x.shared(0, 0, a, b), want[a][b]);
             }
         }
-        Due.is("of a later document", x.shared(0, 1, 0, 0), 3);
+        VersionSearch y = told("doc a b c;cut 0 0 2;doc a b c d;move 1 0 3;cut 1 0 1;put 1 0 a a;");
+        int[][] later = {{4, 4, 3, 3}, {4, 4, 3, 3}, {3, 3, 3, 3}, {3, 3, 3, 5}};
+        for (int a = 0; a < later.length; a++) {
+            for (int b = 0; b < later.length; b++) {
+                Due.is("versions " + a + " " + b + " of a later document", y.shared(0, 1, a, b), later[a][b]);
+            }
+        }
+        Due.text(y, 0, NONE, "doc a;put 0 0 a;doc b;");
+        Due.is("of another archive", y.shared(1, 0, 0, 1), 1);
+        Due.is("of a later document of another archive", y.shared(1, 1, 0, 0), 1);
     }
 
     private static void sharedNoneSuch() {
@@ -696,6 +747,16 @@ public final class ArchiveBoundsTest {
         Due.is("1 1, 1 1", x.common(0, 1, 1, 1, 1), 3);
         VersionSearch y = told("doc a;cut 0 0 1;put 0 0 a;");
         Due.is("of words, whichever tokens", y.common(0, 0, 0, 0, 2), 1);
+        VersionSearch z = told("doc a b c;cut 0 0 1;put 0 2 d e;cut 0 0 1;doc d c e b;put 1 0 e;cut 1 2 2;");
+        // Rows abc, bc, bcde, cde; dceb, edceb, edb.
+        int[][] want = {
+            {3, 2, 2, 1, 1, 1, 1}, {2, 2, 2, 1, 1, 1, 1}, {2, 2, 4, 3, 2, 2, 1}, {1, 1, 3, 3, 2, 2, 1}, {1, 1, 2, 2, 4, 4, 2},
+            {1, 1, 2, 2, 4, 5, 3}, {1, 1, 1, 1, 2, 3, 3}};
+        for (int i = 0; i < 7; i++) {
+            for (int j = 0; j < 7; j++) {
+                Due.is("rows " + i + " " + j, z.common(0, i / 4, i % 4, j / 4, j % 4), want[i][j]);
+            }
+        }
     }
 
     private static void commonNoneSuch() {

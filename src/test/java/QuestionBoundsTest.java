@@ -26,6 +26,7 @@ public final class QuestionBoundsTest {
         newHolds();
         questionsOfQuestions();
         documentsApart();
+        questionsApart();
         howManyQuestions();
         questionKinds();
         questionNumbers();
@@ -47,6 +48,7 @@ public final class QuestionBoundsTest {
         rankByVersions();
         rankByLatest();
         rankByNumber();
+        rankOfALaterQuestion();
         foundNumbers();
         foundNoneSuch();
         best();
@@ -89,6 +91,8 @@ public final class QuestionBoundsTest {
         heldBy("b a", "phrase a b;", 0);
         heldBy("a x b", "phrase a b;", 0);
         heldBy("ab", "phrase a b;", 0);
+        heldBy("l lz ma n", "phrase m;", 0);
+        heldBy("l q n q m p m r", "phrase m q;", 0);
         heldBy("x a b", "phrase a b;", 1);
         heldBy("a b x", "phrase a b;", 1);
         heldBy("a", "phrase a a;", 0);
@@ -117,6 +121,14 @@ public final class QuestionBoundsTest {
         heldBy("b", "near a b 9;", 0);
         heldBy("", "near a b 9;", 0);
         heldBy("a x x x x x b a", "near a b 1;", 1);
+        // The words themselves, not one ahead of them or behind them by letters.
+        for (String other : new String[] {"l", "lz", "ma", "n", "z"}) {
+            heldBy(other + " q", "near m q 9;", 0);
+            heldBy("q " + other, "near m q 9;", 0);
+            heldBy(other + " q", "near q m 9;", 0);
+            heldBy("q " + other, "near q m 9;", 0);
+        }
+        heldBy("m q", "near q m 9;", 1);
         Due.is("not from one version to the next", told("doc x a;put 0 0 b x;back 0 0;", "near a b 2;").holds(0, 0, 0, 0, 0), 0);
     }
 
@@ -138,6 +150,7 @@ public final class QuestionBoundsTest {
         }
         heldBy("", "many a 1;", 0);
         heldBy("aa a", "many a 2;", 0);
+        heldBy("l lz m ma n", "many m 2;", 0);
     }
 
     private static void notAndOrHold() {
@@ -164,6 +177,16 @@ public final class QuestionBoundsTest {
         heldIn("doc;doc a;put 0 0 b;", "phrase a;ever 0;", "00");
         heldIn("doc;" + "put0 0;".repeat(8) + "put0 0 a;", "phrase a;ever 0;", "0000000001");
         heldIn("doc a;cut0 0 1;" + "put0 0;".repeat(8), "phrase a;ever 0;", "1111111111");
+        VersionSearch x = told("doc;put 0 0 a;doc b;put 1 0 a;cut 1 0 1;put 1 0;doc a;", "phrase b;phrase a;ever 1;ever 0;");
+        int[][] many = {{1, 3, 1}, {0, 4, 0}};
+        for (int document = 0; document < 3; document++) {
+            Due.is("one span of " + document, x.spans(0, 0, 2, document, NONE, false), 1);
+            Due.is("from its first version", x.spans(0, 0, 2, document, 0, false), document == 2 ? 0 : 1);
+            Due.is("to the last one", x.spans(0, 0, 2, document, 0, true), new int[] {1, 3, 0}[document]);
+        }
+        for (int k = 0; k < 2; k++) {
+            Due.is("in how many versions", x.found(0, 0, 2 + k, 3), many[k][0] + many[k][1] + many[k][2]);
+        }
     }
 
     private static void newHolds() {
@@ -204,6 +227,69 @@ public final class QuestionBoundsTest {
         }
         Due.is("the last of document 0", x.spans(0, 0, 1, 0, 0, true), 9);
         Due.is("the first of document 1", x.spans(0, 0, 0, 1, 0, false), 0);
+    }
+
+    /** Questions of several words and documents of several rows: each by its own, as it is found here by the row's text. */
+    private static void questionsApart() {
+        Due.sentence("A QUESTION HOLDS in a VERSION of a DOCUMENT");
+        String[][] rows = {{"abc", "abcca", "cca"}, {"bxc", "aabxc"}, {"", "bb", "bbxxac", "bxxac", "bxxa"}};
+        String archive = "doc a b c;doc b x c;doc;put 0 3 c a;put 1 0 a a;put 2 0 b b;cut 0 0 2;put 2 2 x x a c;cut 2 1 1;cut 2 4 1;";
+        String[] questions = {"phrase b c", "near a b 1", "many c 2", "near b c 2", "many a 2", "phrase x c", "near c a 9", "many b 2"};
+        VersionSearch x = told(archive, String.join(";", questions) + ";");
+        for (int k = 0; k < questions.length; k++) {
+            int[] many = new int[3];
+            int[] latest = new int[3];
+            for (int document = 0; document < 3; document++) {
+                for (int version = 0; version < rows[document].length; version++) {
+                    int held = isHeld(rows[document][version], questions[k].split(" ")) ? 1 : 0;
+                    Due.is(questions[k] + " in " + rows[document][version], x.holds(0, 0, k, document, version), held);
+                    many[document] += held;
+                    latest[document] = held;
+                }
+            }
+            for (int document = 0; document < 3; document++) {
+                int ahead = 0;
+                for (int other = 0; other < 3; other++) {
+                    int more = 10 * (many[other] - many[document]) + latest[other] - latest[document];
+                    ahead += more > 0 || more == 0 && other < document ? 1 : 0;
+                }
+                Due.is(questions[k] + ", rank " + ahead, x.found(0, 0, k, 10 + ahead), document);
+            }
+        }
+    }
+
+    private static boolean isHeld(String row, String[] question) {
+        if (question[0].equals("phrase")) {
+            return row.contains(question[1] + question[2]);
+        }
+        if (question[0].equals("many")) {
+            return row.chars().filter(sign -> sign == question[1].charAt(0)).count() >= Integer.parseInt(question[2]);
+        }
+        for (int a = 0; a < row.length(); a++) {
+            for (int b = 0; b < row.length(); b++) {
+                boolean both = row.charAt(a) == question[1].charAt(0) && row.charAt(b) == question[2].charAt(0);
+                if (a != b && both && Math.abs(a - b) <= Integer.parseInt(question[3])) {
+                    return true;
+                }
+            }
+        }
+        return false;
+    }
+
+    /** The rank of a question that is not the first one, by the latest versions alone. */
+    private static void rankOfALaterQuestion() {
+        Due.sentence("of several that in whose latest one it HOLDS");
+        VersionSearch x = told("doc b;put 0 0 a;cut 0 0 1;doc a;doc;put 2 0 a;put 2 0 b;", "phrase b;phrase a;and 0 1;");
+        int[][] want = {{0, 2, 1}, {2, 1, 0}, {2, 0, 1}};
+        for (int k = 0; k < want.length; k++) {
+            for (int i = 0; i < 3; i++) {
+                Due.is("question " + k + " rank " + i, x.found(0, 0, k, 10 + i), want[k][i]);
+            }
+        }
+        VersionSearch y = told("doc a;cut 0 0 1;put 0 0 b;doc;put 1 0 a;", "phrase b;phrase a;");
+        Due.is("b: document 0 first", y.found(0, 0, 0, 10), 0);
+        Due.is("a: document 1 first, by its latest", y.found(0, 0, 1, 10), 1);
+        Due.is("a: document 0 then", y.found(0, 0, 1, 11), 0);
     }
 
     private static void howManyQuestions() {

@@ -371,12 +371,15 @@ public final class TextBoundsTest {
         Due.noFault(1, "many a 1;");
         Due.faultIs(1, "many a b 1;", 1, 7);
         Due.faultIs(1, "many a 1 1;", 1, 9);
+        Due.faultIs(1, "near a b 1 a;", 1, 11);
+        Due.faultIs(1, "many a 1 a;", 1, 9);
         for (String one : new String[] {"not", "ever", "new"}) {
             int behind = 9 + one.length();
             Due.faultIs(1, "phrase a;" + one + ";", 1, behind);
             Due.noFault(1, "phrase a;" + one + " 0;");
             Due.faultIs(1, "phrase a;" + one + " a;", 1, behind + 1);
             Due.faultIs(1, "phrase a;" + one + " 0 0;", 1, behind + 3);
+            Due.faultIs(1, "phrase a;" + one + " 0 a;", 1, behind + 3);
         }
         for (String two : new String[] {"and", "or"}) {
             int behind = 9 + two.length();
@@ -384,6 +387,8 @@ public final class TextBoundsTest {
             Due.noFault(1, "phrase a;" + two + " 0 0;");
             Due.faultIs(1, "phrase a;" + two + " 0 a;", 1, behind + 3);
             Due.faultIs(1, "phrase a;" + two + " 0 0 0;", 1, behind + 5);
+            Due.faultIs(1, "phrase a;" + two + " 0 0 a;", 1, behind + 5);
+            Due.faultIs(1, "phrase a;" + two + " a 0;", 1, behind + 1);
         }
     }
 
@@ -396,6 +401,7 @@ public final class TextBoundsTest {
             Due.faultIs(2, fact + " 0;", 1, behind + 2);
             Due.noFault(2, fact + " 0 0;");
             Due.faultIs(2, fact + " 0 0 0;", 1, behind + 5);
+            Due.faultIs(2, fact + " 0 0 a;", 1, behind + 5);
             Due.faultIs(2, fact + " 0 a;", 1, behind + 3);
             Due.faultIs(2, fact + " a;", 1, behind + 1);
         }
@@ -744,6 +750,14 @@ public final class TextBoundsTest {
         Due.faultIs(0, "put 0 0" + times(20, " a") + " a;", 4, 0);
         Due.faultIs(0, "put 0 0" + times(20, " a") + " abcde;", 2, 48);
         Due.faultIs(0, "put 0 0" + times(20, " a") + " a abcde;", 3, 48);
+        // The tenth version of the document ahead is not the latest one of that which is not there.
+        for (int document = 1; document < 4; document++) {
+            String ten = times(document - 1, "doc;") + "doc a b c;" + times(9, "back" + (document - 1) + " 0;");
+            String put = ten + "put " + document + " 0";
+            Due.faultIs(0, put + times(19, " a") + " abcde;", 2, put.length() + 39);
+            Due.faultIs(0, put + times(20, " a") + " abcde;", 2, put.length() + 41);
+            Due.faultIs(0, put + times(20, " a") + " a abcde;", 3, put.length() + 41);
+        }
     }
 
     private static void fifthWordOfAPhrase() {
@@ -905,6 +919,8 @@ public final class TextBoundsTest {
         Due.is("no text", x.text(0, 0), 0);
         Due.is("no documents", x.archive(0, 0), 0);
         cutAt("doc abc;", 6, 6);
+        cutAt("doc abc;", 2, 0);
+        cutAt("doc;back 0 0;", 6, 4);
         cutAt("doc;put 0 00;", 11, 11);
         cutAt("doc a  ;", 6, 6);
         cutAt("doc;x", 5, 4);

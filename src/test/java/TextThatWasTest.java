@@ -14,7 +14,10 @@ public final class TextThatWasTest {
     private static final String[] SMALL = {"doc b a;put 0 1 c;doc a;", "phrase c a;not 0;many b 1;", "in 0 0;"};
     private static final String[][] ALL = {
         GREAT, SMALL, {"doc a b c;put 0 1 b;", "many a 1;not 0;ever 0;", "out 0 1;out 0 0;"}, {"doc a b;", "phrase a b;not 0;", "in 0 0;"},
-        {"doc;", "many x 9;", ""}, {"", "", ""}};
+        {"doc;", "many x 9;", ""}, {"", "", ""},
+        // Of the one 20 words in the first version, of the other as many tokens, the first of the second version at its front.
+        {"doc" + " a".repeat(20) + ";", "phrase a a a a;", "out 0 0;"},
+        {"doc z;put 0 0 b;doc" + " a".repeat(17) + ";put 1 0 c;", "near z b 9;", "in 1 1;"}};
 
     private final int[] answers = new int[MOST];
     private int many = 0;
@@ -29,7 +32,9 @@ public final class TextThatWasTest {
                 besideAnother(was, is);
                 asAnImageHasIt(was, is);
                 behindAFault(was, is);
+                ofAnotherSort(was, is);
             }
+            faultsBehind(was);
         }
         Due.finish("TextThatWasTest");
     }
@@ -85,6 +90,43 @@ public final class TextThatWasTest {
             Due.is("a fault of a line", Due.text(x, sort, 0, was[sort] + FAULTY[sort]), NONE);
         }
         same(asked(x, 0), ofANewObject(is));
+    }
+
+    /** In whichever order the sorts are told, those of the others stay. */
+    private static void ofAnotherSort(String[] was, String[] is) {
+        Due.sentence("taken .. as a text of a sort");
+        int[][] orders = {{0, 1, 2}, {0, 2, 1}, {1, 0, 2}, {1, 2, 0}, {2, 0, 1}, {2, 1, 0}};
+        TextThatWasTest want = ofANewObject(is);
+        for (int[] order : orders) {
+            VersionSearch x = new VersionSearch();
+            for (int at = NONE; at < 1; at++) {
+                for (int sort : order) {
+                    Due.is("text of sort " + sort, Due.text(x, sort, at, at == NONE ? was[sort] : is[sort]), 0);
+                }
+            }
+            same(asked(x, 0), want);
+        }
+    }
+
+    /** The faults of a text are those that it has on a new object. */
+    private static void faultsBehind(String[] was) {
+        Due.sentence("4 a line of an ARCHIVE of a DOCUMENT, a PLACE, so many WORDS, a VERSION that there is not (yet)");
+        String[][] texts = {
+            {"put 0 0;", "put 3 0;", "cut 0 0 1;", "move 1 0 0;", "back 2 0;", "doc;put 1 0;", "doc;put 0 1;", "doc;cut 0 0 1;", "doc;back 0 1;"},
+            {"not 0;", "many a 1;and 1 0;", "many a 1;or 0 1;"},
+            {"in 0 10;", "out 4 0;"}};
+        int[] faults = {4, 2, 2};
+        for (int sort = 0; sort < 3; sort++) {
+            for (String text : texts[sort]) {
+                VersionSearch fresh = new VersionSearch();
+                Due.text(fresh, sort, NONE, text);
+                VersionSearch x = new VersionSearch();
+                tell(x, was, NONE);
+                Due.is("text " + text, Due.text(x, sort, 0, text), NONE);
+                Due.is("fault of " + text, x.fault(0), faults[sort]);
+                Due.is("its place", x.fault(1), fresh.fault(1));
+            }
+        }
     }
 
     private static void same(TextThatWasTest got, TextThatWasTest want) {
