@@ -19,6 +19,8 @@ public final class ArchiveBoundsTest {
         fullArchive();
         fullVersions();
         fullWords();
+        manyWords();
+        manyTokens();
         sizes();
         tokens();
         postings();
@@ -220,6 +222,62 @@ public final class ArchiveBoundsTest {
         Due.is("no 5th word", x.word(0, 4, 0), NONE);
     }
 
+    /** The k-th of many words, which are by letters as k is by number: a, aa .. ae, b, ba .. */
+    private static String wordOf(int k) {
+        String first = "" + (char) ('a' + k / 6);
+        return k % 6 == 0 ? first : first + (char) ('a' + k % 6 - 1);
+    }
+
+    /** As many words as a tape may well tell, each once, told in another order than that of the letters. */
+    private static void manyWords() {
+        Due.sentence("WORDS of an ARCHIVE, by letters (a beginning first), each once: how many; the k-th");
+        StringBuilder text = new StringBuilder();
+        int[] dates = new int[156];
+        int told = 0;
+        for (int line = 0; line < 12; line++) {
+            int document = line % 4;
+            text.append(line < 4 ? "doc" : "put" + document + " 0");
+            for (int i = 0; i < 13; i++) {
+                int k = told * 7 % 156;
+                text.append(' ').append(wordOf(k));
+                dates[k] = line < 4 ? line : 2 * line - 3;
+                told++;
+            }
+            text.append(line >= 3 && line < 11 ? ";cut" + (line + 1) % 4 + " 0 13;" : ";");
+        }
+        VersionSearch x = told(text.toString());
+        Due.is("how many", x.archive(0, 7), 156);
+        Due.is("TOKENS", x.archive(0, 3), 156);
+        for (int k = 0; k < 156; k++) {
+            Due.is("word " + k, x.word(0, k, 0), Due.word(wordOf(k)));
+            Due.is("its date", x.word(0, k, 3), dates[k]);
+        }
+        Due.is("no word 156", x.word(0, 156, 0), NONE);
+        Due.is("a word is in one version", x.word(0, 155, 1), 1);
+    }
+
+    /** As many tokens as a tape may well tell, and those that are drawn behind them. */
+    private static void manyTokens() {
+        Due.sentence("TOKENS: how many");
+        String text = ("doc" + " a".repeat(20) + ";").repeat(4);
+        for (int document = 0; document < 3; document++) {
+            text += ("cut#0 20;put#0" + " a".repeat(20) + ";").repeat(2).replace("#", document + " ");
+        }
+        text += "cut3 0 20;put3 0" + " a".repeat(20) + ";";
+        VersionSearch x = told(text);
+        Due.is("TOKENS", x.archive(0, 3), 220);
+        Due.is("POSTINGS", x.archive(0, 4), 220);
+        Due.is("SIZE", x.archive(0, 2), 220);
+        Due.is("PASSAGES", x.archive(0, 20), 3);
+        Due.is("PASSAGES of the last document", x.archive(0, 23), 2);
+        Due.is("WORDS", x.archive(0, 7), 1);
+        Due.is("the last token's first version", x.life(0, 3, 2, 19, 0), 2);
+        Due.is("its versions", x.life(0, 3, 2, 19, 2), 1);
+        Due.is("FRESH", x.version(0, 3, 2, 2), 20);
+        Due.is("TOKENS of a document", x.drawn(0, 7, 0, 0, 2), 60);
+        Due.is("TOKENS of the last document", x.drawn(0, 7, 0, 3, 2), 40);
+    }
+
     private static void sizes() {
         Due.sentence("SIZE: WORDS of all VERSIONS, together");
         answers("", 2, 0);
@@ -261,6 +319,8 @@ public final class ArchiveBoundsTest {
         answers("doc a b;cut 0 0 2;doc b;", 5, 1);
         answers("doc a;doc b;put 1 0 a;doc a b;doc a b;", 5, 1);
         answers("doc;doc;doc;doc a;", 5, 3);
+        answers("doc a;doc b c;cut 1 0 2;", 5, 0);
+        answers("doc a b;cut 0 0 1;doc c d e;cut 1 0 2;doc f g;", 5, 2);
     }
 
     private static void twins() {

@@ -431,6 +431,17 @@ public final class HuntBoundsTest {
         Due.is("to the end", places[2], true);
         Due.is("to the front", places[6], true);
         drawnIs(told("doc a;", ""), seedFrom(0, 1, 0, MOVE), 1, 0, 2, 1, "a");
+        VersionSearch less = told("doc a b c d e;cut 0 0 2;", "");
+        VersionSearch more = told("doc;put 0 0 a b;put 0 0 c d e;back 0 1;", "");
+        for (int from = 0; from < 3000; from += 100) {
+            int seed = seedFrom(from, 1, 0, MOVE);
+            int out = draw(3);
+            StringBuilder row = new StringBuilder("cde").deleteCharAt(out).insert(draw(3), "cde".charAt(out));
+            drawnIs(less, seed, 1, 0, 3, 5, row.toString());
+            seedFrom(from, 1, 0, MOVE);
+            int first = draw(2);
+            drawnIs(more, seed, 1, 0, 5, 5, first == draw(2) ? "ab" : "ba");
+        }
     }
 
     private static void drawnBack() {

@@ -312,6 +312,19 @@ public final class TextBoundsTest {
         Due.faultIs(2, "in 003 9;", 1, 3);
         Due.faultIs(2, "in 3 009;", 1, 5);
         Due.faultIs(0, "000", 1, 0);
+        // No word, no number, no end of a line.
+        for (String row : new String[] {"000", "123", "1234", "99999"}) {
+            Due.faultIs(0, "doc " + row + ";", 1, 4);
+            Due.faultIs(0, "doc a" + row + ";", 1, 5);
+            Due.faultIs(0, "doc a " + row + " doc b;", 1, 6);
+            Due.faultIs(0, "doc;put 0 0 " + row + ";", 1, 12);
+            Due.faultIs(0, "doc a;back 0 0 " + row + "doc;", 1, 15);
+            Due.faultIs(1, "phrase " + row + ";", 1, 7);
+            Due.faultIs(1, "near a " + row + " 1;", 1, 7);
+            Due.faultIs(1, "many a 1 " + row + " not 0;", 1, 9);
+            Due.faultIs(2, "in 0 0 " + row + " in 0 0;", 1, 7);
+            Due.faultIs(2, row, 1, 0);
+        }
     }
 
     private static void stops() {
@@ -322,6 +335,14 @@ public final class TextBoundsTest {
         Due.faultIs(0, "doc; ;", 1, 5);
         Due.faultIs(0, ";", 1, 0);
         Due.faultIs(0, "doc:", 1, 3);
+        // No other byte ends a line, or is a word or a number.
+        for (int sign = 0; sign < 256; sign++) {
+            if (sign != ';' && sign != 10 && sign != 32 && (sign < 'a' || sign > 'z')) {
+                Due.faultIs(0, "doc a " + (char) sign + " doc;", 1, 6);
+                boolean digit = sign >= '0' && sign <= '9';
+                Due.faultIs(2, "in 0 " + (char) sign + ";", digit ? 0 : 1, digit ? NONE : 5);
+            }
+        }
     }
 
     private static void linesOfArchives() {

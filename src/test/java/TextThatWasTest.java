@@ -17,6 +17,7 @@ public final class TextThatWasTest {
         {"doc;", "many x 9;", ""}, {"", "", ""},
         // Of the one 20 words in the first version, of the other as many tokens, the first of the second version at its front.
         {"doc" + " a".repeat(20) + ";", "phrase a a a a;", "out 0 0;"},
+        {"doc a b;put 0 0;doc c;put 1 0;put 1 1 d e f g;", "many d 1;ever 0;", "out 1 1;"},
         {"doc z;put 0 0 b;doc" + " a".repeat(17) + ";put 1 0 c;", "near z b 9;", "in 1 1;"}};
 
     private final int[] answers = new int[MOST];
