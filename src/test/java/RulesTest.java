@@ -54,7 +54,11 @@ public final class RulesTest {
         Due.is("classes: " + classes.size(), classes.size() <= CLASSES, true);
         classes.forEach(RulesTest::fieldsAreFew);
         classes.forEach(RulesTest::methodsAreOfTheirOwn);
-        callsAreFewDeep(classes);
+        if (ToolProvider.findFirst("javap").isPresent()) {
+            callsAreFewDeep(classes);
+        } else {
+            System.out.println("RulesTest: without javap, calls are not looked at");
+        }
         Due.finish("RulesTest");
     }
 
